@@ -9,6 +9,7 @@ public final class CountsTest {
         shareBits();
         digestOfNew();
         digestSees();
+        digestOfDoor0();
         check.end();
     }
 
@@ -35,6 +36,14 @@ public final class CountsTest {
         x.shut(0);
         due(x, 4, 1);
         due(x, 2, 4);
+        x.press(3, 2);
+        x.press(3, 2);
+        due(x, 5, 2);
+        x.set(2, 0);
+        due(x, 5, 0);
+        x.undo();
+        x.undo();
+        x.undo();
         x.unlock(2);
         due(x, 5, 0);
         x.make(0, 0, 0);
@@ -167,5 +176,42 @@ public final class CountsTest {
         check.holds("another character changes it", x.digest() != withText);
         x.clearBuffer();
         check.same("cleared", x.digest(), first);
+    }
+
+    /** The digest holds what door 0 would do with 7919, and with no number near it. */
+    private static void digestOfDoor0() {
+        RollingFob x = new RollingFob();
+        Model model = new Model();
+        x.set(2, 1);
+        model.set(2, 1);
+        x.press(0, 1);
+        model.press(0, 1);
+        check.same("door 0 locked", x.digest(), model.digest());
+        x.unlock(0);
+        model.unlock(0);
+        x.press(0, 2);
+        model.press(0, 2);
+        check.same("door 1 locked", x.digest(), model.digest());
+        nextIs(7918);
+        nextIs(7920);
+    }
+
+    private static void nextIs(int number) {
+        for (int at = 0; at < 10000 * 9999; at++) {
+            int secret = at % 10000;
+            int counter = at / 10000;
+            if (Check.number(secret, counter + 1) == number) {
+                RollingFob x = new RollingFob();
+                Model model = new Model();
+                x.make(0, secret, counter);
+                model.make(0, secret, counter);
+                x.learn(0, 0, 0);
+                model.learn(0, 0, 0);
+                check.same("it would open", x.ifHeard(0, number), 0);
+                check.same("digest beside " + number, x.digest(), model.digest());
+                return;
+            }
+        }
+        check.holds("there is a secret for " + number, false);
     }
 }

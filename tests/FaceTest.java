@@ -104,7 +104,7 @@ public final class FaceTest {
         String[] barred = {"\\bimport\\b", "\\bpackage\\b", "->", "::", "\\btry\\b", "\\bcatch\\b", "\\bfinally\\b",
             "\\bsynchronized\\b", "\\bassert\\b", "\\bprotected\\b", "\\binstanceof\\b",
             "\\bDouble\\b", "\\bFloat\\b", "Exact\\b", "\\bSystem\\.(?!arraycopy\\b)", "\"[^\"]*\" *\\+", "\\+ *\"",
-            "\\bMath\\.(?!(min|max|abs|floorDiv|floorMod)\\b)", "\\bInteger\\.(?!(bitCount|MAX_VALUE)\\b)",
+            "\\bMath\\.(?!(min|max|abs|floorDiv|floorMod)\\b)", "\\bInteger\\.(?!bitCount\\b)",
             "\\bLong\\b", "\\bThread\\b", "\\bRandom\\b", "[^\\x00-\\x7f]"};
         for (String bar : barred) {
             Matcher found = Pattern.compile(bar).matcher(text);

@@ -6,6 +6,7 @@ public final class UndoTest {
         none();
         six();
         everyCall();
+        numbersSentAgain();
         whatIsNotUndoable();
         throwsSaveNothing();
         manyRounds();
@@ -80,6 +81,17 @@ public final class UndoTest {
         back("a noted number", x, () -> x.press(0, 1));
         x.set(2, 1);
         back("a number for a locked door", x, () -> x.press(0, 4));
+    }
+
+    private static void numbersSentAgain() {
+        RollingFob x = new RollingFob();
+        x.learn(0, 0, 0);
+        x.press(0, 0);
+        back("again that opens", x, () -> x.again(0, 1));
+        check.same("sent again", x.count(1), 0);
+        check.same("opened by it", x.count(3), 0);
+        x.again(0, 1);
+        check.same("opened by it", x.count(3), 1);
     }
 
     private static void whatIsNotUndoable() {

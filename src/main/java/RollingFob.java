@@ -154,9 +154,7 @@ public final class RollingFob {
     }
 
     public int play() throws IllegalArgumentException {
-        if (!text.isComplete()) {
-            throw new IllegalArgumentException();
-        }
+        needArgument(text.isComplete());
         history.keep(state);
         int done = 0;
         int start = 0;
@@ -201,7 +199,7 @@ public final class RollingFob {
     }
 
     public int air(int place) throws IllegalArgumentException {
-        needRange(place, 0, Integer.MAX_VALUE);
+        needArgument(place >= 0);
         return state.air.number(place);
     }
 
@@ -286,7 +284,11 @@ public final class RollingFob {
     }
 
     private static void needRange(int value, int least, int most) {
-        if (value < least || value > most) {
+        needArgument(value >= least && value <= most);
+    }
+
+    private static void needArgument(boolean holds) {
+        if (!holds) {
             throw new IllegalArgumentException();
         }
     }
