@@ -11,7 +11,7 @@ public final class TextsTest {
         clear();
         errorsByHand();
         errorsOfAllTexts();
-        errorsWithAPartAhead();
+        errorsOfAnySign();
         fullBuffer();
         play();
         playStops();
@@ -139,7 +139,7 @@ public final class TextsTest {
         error("f0-!f0-", 3);
     }
 
-    /** All texts of up to five of these characters: one object takes 70 texts, to keep to 512 calls. */
+    /** All texts of up to four of these characters. */
     private static void errorsOfAllTexts() {
         char[] signs = {'f', 'r', 'c', '0', '2', '3', '7', '8', '-', ';', 'g'};
         List<String> texts = new ArrayList<>();
@@ -157,17 +157,21 @@ public final class TextsTest {
         errorsOf(texts, "");
     }
 
-    private static void errorsWithAPartAhead() {
+    /** Each sign behind each beginning of a part, and behind each part. */
+    private static void errorsOfAnySign() {
         List<String> texts = new ArrayList<>();
         for (String part : PARTS) {
             for (char sign = 33; sign <= 126; sign++) {
-                texts.add(part + sign);
+                for (int length = 0; length <= part.length(); length++) {
+                    texts.add(part.substring(0, length) + sign);
+                }
             }
         }
         errorsOf(texts, "");
         errorsOf(PARTS, "r012;");
     }
 
+    /** An object is used for at most 512 calls, so that a new one is taken ahead of that. */
     private static void errorsOf(List<String> texts, String ahead) {
         RollingFob x = new RollingFob();
         int calls = 0;
