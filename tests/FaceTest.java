@@ -15,6 +15,7 @@ import java.util.regex.Pattern;
 /** The public face as the document has it, and the rules of LANGUAGE.md that a look at the program can tell. */
 public final class FaceTest {
     private static final Check check = new Check("FaceTest");
+    private static final String INDEX = "(?<!new )\\b\\w+\\[([^\\]]+)\\]";
     private static final String[] FACE = {
         "int make(int,int,int) IndexOutOfBoundsException IllegalArgumentException",
         "int battery(int,int) IndexOutOfBoundsException IllegalArgumentException",
@@ -46,7 +47,10 @@ public final class FaceTest {
     public static void main(String[] args) throws IOException {
         face();
         String text = Files.readString(Path.of("src/main/java/RollingFob.java"));
-        source(text.replaceAll("(?s)/\\*.*?\\*/", "").replaceAll("//.*", ""));
+        String program = text.replaceAll("(?s)/\\*.*?\\*/", "").replaceAll("//.*", "");
+        source(program);
+        indexes(program);
+        lengthsAndDivisors(program);
         check.end();
     }
 
@@ -115,5 +119,47 @@ public final class FaceTest {
             check.holds("throw new " + thrown.group(1), thrown.group(1).matches(
                     "IllegalStateException|IllegalArgumentException|IndexOutOfBoundsException"));
         }
+    }
+
+    /** Rule 7: an index is looked at in the very method that uses it, or made by floorMod. */
+    private static void indexes(String text) {
+        // From a line that ends with "{" behind a method's brackets to the "}" just below its start.
+        Matcher method = Pattern.compile("(?ms)^( {4}| {8})\\w[^;{=]*\\)[^;{=]*\\{$(.*?)^\\1\\}$").matcher(text);
+        int seen = 0;
+        while (method.find()) {
+            for (String index : allOf(INDEX, method.group(2))) {
+                seen++;
+                check.holds("[" + index + "] is looked at", lookedAt(method.group(2), index));
+            }
+        }
+        check.same("the indexes that are in methods", seen, allOf(INDEX, text).size());
+    }
+
+    private static boolean lookedAt(String method, String index) {
+        if (index.matches("[0-9]|Math\\.floorMod\\(\\w+, [A-Z]+\\)")) {
+            return true;
+        }
+        String compared = "\\b" + index + " (<|>=) ";
+        String needed = "\\b(needIndex|canPress)\\(" + index + "\\b";
+        return Pattern.compile(compared + "|" + needed).matcher(method).find();
+    }
+
+    private static void lengthsAndDivisors(String text) {
+        for (String length : allOf("\\bnew \\w+\\[([^\\]]+)\\]", text)) {
+            check.holds("the length " + length + " is a constant", length.matches("[A-Z]+"));
+        }
+        // openShare divides by what it has compared with 0.
+        for (String divisor : allOf("[/%] *=? *(\\(?[\\w.]+)", text)) {
+            check.holds("the divisor " + divisor + " is a constant", divisor.matches("\\(?[A-Z_]+|\\(double"));
+        }
+    }
+
+    private static List<String> allOf(String pattern, String text) {
+        List<String> all = new ArrayList<>();
+        Matcher found = Pattern.compile(pattern).matcher(text);
+        while (found.find()) {
+            all.add(found.group(1));
+        }
+        return all;
     }
 }

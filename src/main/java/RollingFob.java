@@ -820,15 +820,18 @@ public final class RollingFob {
         }
 
         void keep(State state) {
-            saved[next].copyFrom(state);
-            next = (next + 1) % SAVED;
+            saved[Math.floorMod(next, SAVED)].copyFrom(state);
+            next++;
             length = Math.min(length + 1, SAVED);
         }
 
         void restore(State state) {
-            next = (next + SAVED - 1) % SAVED;
-            state.copyFrom(saved[next]);
+            if (length <= 0) {
+                return;
+            }
+            next--;
             length--;
+            state.copyFrom(saved[Math.floorMod(next, SAVED)]);
         }
     }
 
